@@ -19,9 +19,9 @@ public final class LoadCouncil {
     private static final int BALLOT_ROWS = MAX_BALLOTS + 1;
 
     private static final int LAWS = 4;
+    private static final int BY_LOADS = 0;
     private static final int BY_MOST = 1;
     private static final int BY_HALVING = 2;
-    private static final int BY_LOADS = 0;
 
     /** Can be divided by each of 1 to 8, so that every weight is a whole number of its parts. */
     private static final int WHOLE_WEIGHT = 840;
@@ -192,7 +192,7 @@ public final class LoadCouncil {
         if (what == 1) {
             return now.sets[b];
         }
-        return Integer.bitCount(election.outcome(now, what - 2) & now.sets[b]);
+        return Integer.bitCount(election.hold(now, what - 2) & now.sets[b]);
     }
 
     // ---- members
@@ -209,7 +209,7 @@ public final class LoadCouncil {
     }
 
     public int members(int law) {
-        return isLaw(law) ? election.outcome(now, law) : BAD;
+        return isLaw(law) ? election.hold(now, law) : BAD;
     }
 
     public long came(int law, int i, int part) {
@@ -255,14 +255,14 @@ public final class LoadCouncil {
         if (what == 1) {
             return now.isOwed(set) ? 1 : 0;
         }
-        return Integer.bitCount(election.outcome(now, what - 2) & now.approvedByThoseWhoAgree(set));
+        return Integer.bitCount(election.hold(now, what - 2) & now.approvedByThoseWhoAgree(set));
     }
 
     public int shorts(int law, int i) {
         if (!isLaw(law) || i < -1) {
             return BAD;
         }
-        int elected = election.outcome(now, law);
+        int elected = election.hold(now, law);
         int found = 0;
         for (int set = 1; set < 1 << now.candidates; set++) {
             if (now.isShort(set, elected)) {
@@ -289,7 +289,7 @@ public final class LoadCouncil {
         trial.addBallot(0, 1 << c);
         for (int more = 0; more <= MAX_JOINING; more++) {
             trial.voters[now.ballots] = more;
-            if (hasBit(election.outcome(trial, law), c)) {
+            if (hasBit(election.hold(trial, law), c)) {
                 return more;
             }
         }
@@ -300,13 +300,13 @@ public final class LoadCouncil {
         if (!isLaw(law)) {
             return BAD;
         }
-        int elected = election.outcome(now, law);
+        int elected = election.hold(now, law);
         int found = 0;
         trial.copyFrom(now);
         for (int b = 0; b < now.ballots; b++) {
             // A ballot whose only voter is gone bears on nothing, as if it were none.
             trial.voters[b] = now.voters[b] - 1;
-            if (election.outcome(trial, law) != elected) {
+            if (election.hold(trial, law) != elected) {
                 found |= 1 << b;
             }
             trial.voters[b] = now.voters[b];
@@ -319,12 +319,12 @@ public final class LoadCouncil {
             return BAD;
         }
         int own = now.sets[b];
-        int most = Integer.bitCount(election.outcome(now, law) & own);
+        int most = Integer.bitCount(election.hold(now, law) & own);
         int best = NONE;
         trial.copyFrom(now);
         for (int set = 1; set < 1 << now.candidates; set++) {
             trial.sets[b] = set;
-            int got = Integer.bitCount(election.outcome(trial, law) & own);
+            int got = Integer.bitCount(election.hold(trial, law) & own);
             if (got > most) {
                 most = got;
                 best = set;
@@ -337,18 +337,18 @@ public final class LoadCouncil {
         if (!isLaw(law)) {
             return BAD;
         }
-        int elected = election.outcome(now, law);
+        int elected = election.hold(now, law);
         trial.copyFrom(now);
         trial.turnRankRound();
-        return election.outcome(trial, law) != elected ? 1 : 0;
+        return election.hold(trial, law) != elected ? 1 : 0;
     }
 
     public int both(int law, int other) {
         if (!isLaw(law) || !isLaw(other)) {
             return BAD;
         }
-        int elected = election.outcome(now, law);
-        return Integer.bitCount(elected & election.outcome(now, other));
+        int elected = election.hold(now, law);
+        return Integer.bitCount(elected & election.hold(now, other));
     }
 
     public int count(int what) {
@@ -367,7 +367,7 @@ public final class LoadCouncil {
     private int lawsThatElect(int c) {
         int laws = 0;
         for (int law = 0; law < LAWS; law++) {
-            if (hasBit(election.outcome(now, law), c)) {
+            if (hasBit(election.hold(now, law), c)) {
                 laws |= 1 << law;
             }
         }
@@ -733,20 +733,17 @@ public final class LoadCouncil {
             loads = new long[BALLOT_ROWS];
         }
 
-        private int outcome(Council council, int law) {
-            hold(council, law);
-            return set;
-        }
-
-        private void hold(Council council, int law) {
+        /** Elects all members, and tells them as bits. */
+        private int hold(Council council, int law) {
             begin(council);
             for (int seat = 0; seat < council.seats; seat++) {
                 int c = nextMember(council, law);
                 if (c == NONE) {
-                    return;
+                    return set;
                 }
                 elect(council, law, c);
             }
+            return set;
         }
 
         private void begin(Council council) {

@@ -514,6 +514,15 @@ public final class PromisesTest {
         due("came(0, 0, 2)", x.came(0, 0, 2), BAD);
         due("came(0, 0, -1)", x.came(0, 0, -1), BAD);
         due("came(0, 9, 2), BAD first", x.came(0, 9, 2), BAD);
+        x.seats(2);
+        due("came of the third, no longer a member", x.came(0, 2, 0), NONE);
+        LoadCouncil y = laid("n8;b1,abcdefgh;k8;");
+        for (int i = 0; i < 8; i++) {
+            dueCame(y, 0, i, i + 1, 1);
+            dueCame(y, 1, i, 1, 1);
+            dueCame(y, 2, i, 1, i + 1);
+            dueCame(y, 3, i, i + 1, 1);
+        }
     }
 
     private static void p17CameOfGreatNumbers() {
@@ -584,6 +593,8 @@ public final class PromisesTest {
         due("agrees(1, -1)", x.agrees(1, -1), BAD);
         LoadCouncil y = laid("n1;");
         due("no voters, none owed", y.agrees(1, 1), 0);
+        y.ballot(1, 1);
+        due("one voter, one owed", y.agrees(1, 1), 1);
     }
 
     private static void p21Shorts() {
@@ -605,6 +616,10 @@ public final class PromisesTest {
         y.withdraw(1, 1);
         due("ab is short of one", y.shorts(3, 0), 3);
         due("ab alone", y.shorts(3, -1), 1);
+        y.withdraw(0, 1);
+        due("a is short, too", y.shorts(3, 0), 1);
+        due("b is short, too", y.shorts(3, 1), 2);
+        due("all three", y.shorts(3, -1), 3);
     }
 
     private static void p22Joins() {
@@ -657,6 +672,10 @@ public final class PromisesTest {
         due("ballots stay", y.count(1), 2);
         LoadCouncil z = laid("n3;");
         due("matters without ballots", z.matters(0), 0);
+        z.ballot(1, 4);
+        z.seats(1);
+        due("matters of a new ballot", z.matters(0), 0b1);
+        due("matters of a new object", new LoadCouncil().matters(0), 0b110000);
     }
 
     private static void p24Rather() {
@@ -674,12 +693,28 @@ public final class PromisesTest {
         due("as it is", y.members(0), 0b101);
         due("most does not ask for it", y.rather(1, 0, 0), NONE);
         due("nor tell how many", y.rather(1, 0, 1), NONE);
+        y.prefer(1);
+        // By a alone: a at 1/5, c at 1/2, b without support. By b alone: a and c alike at 1/2, a first.
+        due("rather b still", y.rather(0, 0, 0), 0b010);
+        y.approve(0, 0b101);
+        due("c and a as it is", y.rather(0, 0, 0), NONE);
+        dueRatherOfA();
         due("rather(4, 0, 0)", y.rather(4, 0, 0), BAD);
         due("rather(-1, 0, 0)", y.rather(-1, 0, 0), BAD);
         due("rather(0, 3, 0)", y.rather(0, 3, 0), BAD);
         due("rather(0, -1, 0)", y.rather(0, -1, 0), BAD);
         due("rather(0, 0, 2)", y.rather(0, 0, 2), BAD);
         due("rather(0, 0, -1)", y.rather(0, 0, -1), BAD);
+    }
+
+    private static void dueRatherOfA() {
+        // The same with a for b and c for a: own set ac, told as a alone.
+        LoadCouncil x = laid("n3;b3,ac;b2,c;b2,b;k2;ocab;");
+        due("as it is", x.members(0), 0b110);
+        due("rather a", x.rather(0, 0, 0), 0b001);
+        due("both of it", x.rather(0, 0, 1), 2);
+        due("of a new object", new LoadCouncil().rather(0, 1, 0), 0b101);
+        due("of a new object", new LoadCouncil().rather(0, 1, 1), 3);
     }
 
     private static void p25Decided() {
