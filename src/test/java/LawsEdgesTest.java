@@ -28,6 +28,8 @@ public final class LawsEdgesTest {
         mattersAsASet();
         ratherOnlyIfMore();
         ratherTheLeastOfTheMost();
+        ratherOfOneAtLeast();
+        ratherOfOneThatIsWithdrawn();
         decidedAsASet();
         Check.end();
     }
@@ -324,6 +326,47 @@ public final class LawsEdgesTest {
         Told.laid("n5;b2,abe;b3,ade;b1,bd;b4,ac;k3;").row(2, 0, 3, 2)
             .keeps("rather(2, 0, 0)", 0b10010).keeps("rather(2, 0, 1)", 3)
             .due("approve(0, 2)", 0b10011).row(2, 0, 1, 2).due("approve(0, 18)", 2).row(2, 0, 4, 1);
+    }
+
+    /** RATHER: the set that it might APPROVE of, so one at least: where nothing at all would be best, it is none. */
+    private static void ratherOfOneAtLeast() {
+        // Without ballot 0 all of its three are members; by each of the 15 sets that it may tell d is one of them.
+        String others = "b7,abd;b5,abc;b4,c;b5,bd;k3;";
+        int[] members = {7, 11, 11, 11, 14, 14, 14, 14, 14, 11, 14, 11, 14, 14, 14, 14};
+        for (int law = 0; law < 4; law += 3) {
+            String rather = "rather(" + law + ", 0, ";
+            Told.laid("n4;" + others + "oacdb;").row(law, 1, 0, 2).came(law, 1, 29, 204).came(law, 2, 349, 1836)
+                .due("members(" + law + ")", members[0]);
+            Told four = Told.laid("n4;b4,abc;" + others + "oacdb;").row(law, 1, 2, 3).came(law, 1, 10, 91)
+                .came(law, 2, 11, 84).keeps(rather + "0)", NONE).keeps(rather + "1)", NONE);
+            for (int set = 1; set < 16; set++) {
+                Told told = four.again();
+                if (set != 0b0111) {
+                    told.due("approve(0, " + set + ")", 0b0111);
+                }
+                told.due("members(" + law + ")", members[set]);
+            }
+            // With e beside there is a set by which it gives up all others: e is behind c at 1/4.
+            Told.laid("n5;b4,abc;" + others + "oacdbe;").keeps(rather + "0)", 0b10000).keeps(rather + "1)", 3);
+            Told.laid("n5;b4,abc;" + others + "oeacdb;").keeps(rather + "0)", 0b10000).keeps(rather + "1)", 3)
+                .due("approve(0, 16)", 0b111).row(law, 1, 0, 2);
+        }
+    }
+
+    /** RATHER: a set of CANDIDATES that there are, and those that are WITHDRAWN are. */
+    private static void ratherOfOneThatIsWithdrawn() {
+        for (int law = 0; law < 4; law += 3) {
+            String rather = "rather(" + law + ", 0, ";
+            Told.laid("n5;b4,abc;b7,abd;b5,abc;b4,c;b5,bd;k3;oacdbe;").due("withdraw(4, 1)", 1)
+                .keeps(rather + "0)", 0b10000).keeps(rather + "1)", 3);
+            // The same with the one that is withdrawn ahead of all: the least set of all is its own.
+            Told.laid("n5;b4,bcd;b7,bce;b5,bcd;b4,d;b5,ce;k3;oabdec;").due("withdraw(0, 1)", 1)
+                .row(law, 2, 3, 4).keeps(rather + "0)", 0b00001).keeps(rather + "1)", 3)
+                .due("approve(0, 1)", 0b01110).row(law, 2, 1, 3);
+            // Nor is it of use to a ballot all of whose own are withdrawn, as none of them can be a member.
+            Told.laid("n3;b4,a;b3,b;b2,c;k1;").due("withdraw(0, 1)", 1)
+                .keeps(rather + "0)", NONE).keeps(rather + "1)", NONE);
+        }
     }
 
     /** DECIDED: others would be MEMBERS (as a set), were RANK the other way round. */
