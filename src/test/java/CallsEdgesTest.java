@@ -46,6 +46,8 @@ public final class CallsEdgesTest {
         p27Count();
         ofSeveralBadFirst();
         ofSeveralNoBeforeNone();
+        askedOfWhatStands();
+        askedAgain();
         objectsAreApart();
         Check.end();
     }
@@ -288,6 +290,9 @@ public final class CallsEdgesTest {
         Told.laid("n1;").keeps("greatest(0)", 0).keeps("greatest(1)", 1);
         // The greatest one is of a middle ballot, then of the last one.
         Told.laid("n3;b4,a;b2,b;b3,c;k3;").greatest(1, 2).due("voters(2, 1)", 3).greatest(1, 1);
+        // There are more ballots than candidates and seats: the fourth bears most, then the tenth.
+        Told.laid("n2;b4,a;b4,a;b4,a;b1,b;k2;").greatest(1, 1).due("seats(1)", 2).greatest(1, 12);
+        Told.laid("n2;" + "b4,a;".repeat(9) + "b2,b;k2;").greatest(1, 2).due("withdraw(1, 1)", 1).greatest(1, 36);
     }
 
     private static void p20Agrees() {
@@ -364,6 +369,53 @@ public final class CallsEdgesTest {
     private static void ofSeveralNoBeforeNone() {
         Told.laid("n2;b20,a;b20,a;k1;").keeps("joins(0, 1)", NONE).due("withdraw(1, 1)", 1).keeps("joins(0, 1)", NO)
             .keeps("joins(4, 1)", BAD);
+    }
+
+    /** What is asked is of what was laid and changed since, whatever THE TEXT tells by then. */
+    private static void askedOfWhatStands() {
+        String[] texts = {"n1;", "n8;b20,h;b1,g;k1;ohgfedcba;", "n4;b1,a;b1,b;k1;odcba;"};
+        for (String text : texts) {
+            Told changed = Told.laid("n4;b1,abd;b4,c;k2;odcba;").due("voters(0, 6)", 1).due("approve(1, 12)", 4)
+                .due("seats(3)", 2).due("prefer(2)", 1).due("prefer(1)", 2).due("prefer(0)", 3).rank(0, 1, 2, 3);
+            wandered(changed, text);
+            changed.due("vote(0, 2)", 2).due("vote(0, 3)", 3).due("vote(0, 4)", 3).due("vote(0, 5)", 2)
+                .due("vote(1, 2)", 2).due("vote(1, 3)", 1).due("vote(1, 4)", 1).due("vote(1, 5)", 2)
+                .due("candidate(1, 3)", 0b0110).due("candidate(2, 3)", 0b1001).due("agrees(4, 2)", 2)
+                .due("agrees(4, 3)", 1).due("both(0, 1)", 2).due("both(1, 2)", 3).due("both(2, 3)", 2)
+                .due("both(3, 0)", 3).row(0, 3, 0, 2).row(1, 3, 0, 1).row(2, 3, 0, 1).row(3, 3, 0, 2)
+                .came(0, 2, 7, 20).load(0, 4, 15).load(1, 7, 20).greatest(7, 20)
+                .due("joins(0, 1)", 1).due("joins(1, 2)", 3).due("joins(2, 2)", 1).due("matters(0)", 2)
+                .due("matters(1)", 0).due("matters(2)", 1).due("decided(0)", 1).due("decided(1)", 0);
+            Told groups = Told.laid("n5;b4,abc;b2,d;k4;").due("approve(1, 24)", 8).due("seats(3)", 4);
+            wandered(groups, text);
+            groups.due("shorts(1, -1)", 2).due("shorts(1, 0)", 8).due("shorts(1, 1)", 16).due("agrees(24, 0)", 2)
+                .due("agrees(24, 1)", 0).due("agrees(16, 1)", 1).due("members(0)", 0b01011);
+            Told sets = Told.laid("n3;b3,b;b2,a;b2,c;k1;").due("approve(0, 3)", 2).due("seats(2)", 1);
+            wandered(sets, text);
+            sets.due("rather(0, 0, 0)", 0b010).due("rather(0, 0, 1)", 2).due("rather(1, 0, 0)", NONE);
+        }
+    }
+
+    private static void wandered(Told told, String text) {
+        told.answer("wipe()");
+        told.write(text).due("fault()", NONE);
+    }
+
+    /** No answer leaves a trace in a later one, not even the eleventh ballot that JOINS thinks of. */
+    private static void askedAgain() {
+        Told x = Told.laid("n3;" + "b1,a;".repeat(5) + "b1,b;".repeat(5) + "k2;");
+        for (int round = 0; round < 3; round++) {
+            for (int law = 0; law < 4; law++) {
+                x.due("joins(" + law + ", 2)", 6).due("joins(" + law + ", 0)", 0).due("joins(" + law + ", 2)", 6)
+                    .row(law, 0, 1).due("matters(" + law + ")", 0).due("decided(" + law + ")", 0)
+                    .due("rather(" + law + ", 9, 0)", NONE);
+            }
+            x.load(0, 1, 5).load(9, 1, 5).greatest(1, 5);
+        }
+        x.due("prefer(2)", 2);
+        for (int law = 0; law < 4; law++) {
+            x.due("joins(" + law + ", 2)", 5);
+        }
     }
 
     private static void objectsAreApart() {

@@ -15,6 +15,7 @@ public final class TermsEdgesTest {
         rankIs01AtFirst();
         noneIsWithdrawnAtFirst();
         theTextHas200AtMost();
+        itemsAtTheVeryEnd();
         aSemicolonBehindEachItem();
         numbersHaveOneOrTwoFigures();
         candidatesAreToldOnceAndFirst();
@@ -141,6 +142,22 @@ public final class TermsEdgesTest {
         Told.written(of200).due("count(6)", 200).keeps("write(32)", FULL).keeps("write(126)", FULL)
             .keeps("fault()", NONE).due("lay()", 8).due("count(3)", 5).keeps("write(59)", FULL)
             .due("wipe()", 200).due("write(110)", 1);
+    }
+
+    /** The last letters that there can be: nothing behind them is looked at. */
+    private static void itemsAtTheVeryEnd() {
+        String of195 = "n8;" + "k4;".repeat(64);
+        for (String end : new String[] {"b1,a;", "b20,h"}) {
+            boolean ends = end.endsWith(";");
+            Told.written(of195 + end).due("count(6)", 200).due("fault()", ends ? NONE : 195)
+                .due("lay()", ends ? 8 : NO).due("count(1)", ends ? 1 : 6);
+        }
+        for (String end : new String[] {"b1111", "b1;;;", "bbbb;", "b1;  ", "b1,;;", "b1,aa", "b1,ab", "oabc;", "oabcd",
+            "ooooo", "k1111", "k111;", "k;;;;", ",,,,,", ";;;;;", "n8;k4", "nnnnn"}) {
+            Told.written(of195 + end).due("count(6)", 200).due("fault()", 195).due("lay()", NO);
+        }
+        Told.written(of195 + "k4;k4").due("fault()", 198).due("lay()", NO);
+        Told.written(of195 + "k4;b1").due("fault()", 198).due("lay()", NO);
     }
 
     /** A TEXT is ITEMS one behind the other, a ; behind each. */
